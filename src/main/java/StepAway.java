@@ -33,19 +33,26 @@ public final class StepAway {
     /** A GIFT's number is this times its PIECE, and how many parts. */
     private static final int GIFT_BASE = 10;
 
-    private final Tape tape = new Tape();
-    private final Reader reader = new Reader(tape);
-    private final Space space = new Space();
-    private final Rows rows = new Rows();
-    private final LeastRow leastRow = new LeastRow();
-    private final Trials trials = new Trials();
-    private final Hearing hearing = new Hearing();
-    private final Fears fears = new Fears();
-    private Matter held = new Matter();
-    private Matter draft = new Matter();
+    private final Tape tape;
+    private final Reader reader;
+    private final Space space;
+    private final Rows rows;
+    private final LeastRow leastRow;
+    private final Trials trials;
+    private final Hearing hearing;
+    private final Fears fears;
+    private Matter held;
 
     public StepAway() {
-        layHeldMatter();
+        tape = new Tape();
+        reader = new Reader(tape);
+        held = new Matter();
+        space = new Space(held);
+        rows = new Rows(space);
+        leastRow = new LeastRow(rows);
+        trials = new Trials(space);
+        hearing = new Hearing(space, tape);
+        fears = new Fears(space);
     }
 
     public int feed(int a, int b, int c, int d, int e) {
@@ -59,15 +66,17 @@ public final class StepAway {
     // ---- the matter
 
     public int matter() {
-        boolean whole = reader.readInto(draft);
+        boolean isMatter = reader.read();
         tape.clear();
-        if (!whole) {
+        if (!isMatter) {
             return NONE;
         }
-        Matter old = held;
-        held = draft;
-        draft = old;
-        layHeldMatter();
+        held = reader.swapDraft(held);
+        space.lay(held);
+        rows.solve(space, held.breach);
+        leastRow.forget();
+        hearing.forget();
+        fears.forget();
         return held.clauses;
     }
 
@@ -119,7 +128,7 @@ public final class StepAway {
         if (what == 0) {
             return space.begin;
         }
-        return what == 1 ? space.goalState : NONE;
+        return what == 1 ? space.endState : NONE;
     }
 
     public int parts(int s, int k) {
@@ -156,7 +165,7 @@ public final class StepAway {
         }
         int steps = rows.fewest(s, turn);
         if (steps != NONE) {
-            leastRow.trace(space, rows, s, turn);
+            leastRow.trace(s, turn);
         }
         return steps;
     }
@@ -187,22 +196,22 @@ public final class StepAway {
     }
 
     public int need() {
-        return trials.leastNeed(space);
+        return trials.leastNeed();
     }
 
     public int last() {
-        return trials.leastForLastStep(space);
+        return trials.leastForLastStep();
     }
 
     public int pledge(int most, int what) {
         if (!within(most, 0, MOST_PLEDGE) || !within(what, 0, 1)) {
             return RANGE;
         }
-        return trials.leastPledge(space, most, what);
+        return trials.leastPledge(most, what);
     }
 
     public int cut(int k) {
-        return held.hasPiece(k) ? trials.leastCut(held, k) : RANGE;
+        return held.hasPiece(k) ? trials.leastCut(k) : RANGE;
     }
 
     public int edge(int k, int side) {
@@ -210,7 +219,7 @@ public final class StepAway {
             return RANGE;
         }
         boolean now = rows.fewest(space.begin, held.first) != NONE;
-        return trials.leastMove(held, k, side, now);
+        return trials.leastMove(k, side, now);
     }
 
     public int great(int what) {
@@ -228,13 +237,13 @@ public final class StepAway {
         if (!isStand(s, turn) || !within(trust, 0, MOST_TRUST)) {
             return RANGE;
         }
-        return trials.fewestWithTrust(space, s, turn, trust);
+        return trials.fewestWithTrust(s, turn, trust);
     }
 
     // ---- rows told by hand
 
     public int judge(int d) {
-        int answer = within(d, 0, MOST_LATE) ? hearing.hear(space, tape, d) : RANGE;
+        int answer = within(d, 0, MOST_LATE) ? hearing.hear(d) : RANGE;
         tape.clear();
         return answer;
     }
@@ -280,7 +289,7 @@ public final class StepAway {
         if (!held.hasSide(side) || !within(n, 1, MOST_STEPS)) {
             return RANGE;
         }
-        return fears.bestQuestion(space, side, n);
+        return fears.bestQuestion(side, n);
     }
 
     public int count(int what) {
@@ -291,14 +300,6 @@ public final class StepAway {
             case 3: return tape.length;
             default: return NONE;
         }
-    }
-
-    private void layHeldMatter() {
-        space.lay(held);
-        rows.solve(space, held.breach);
-        leastRow.forget();
-        hearing.forget();
-        fears.forget();
     }
 
     private boolean isStand(int s, int turn) {
@@ -565,7 +566,7 @@ public final class StepAway {
         private static final int PAIRS = 64;
 
         private final Lexer lexer;
-        private Matter matter;
+        private Matter draft;
         private int clausesSeen = 0;
         private int undividedTold = 0;
         private int keptTold = 0;
@@ -574,12 +575,19 @@ public final class StepAway {
 
         Reader(Tape tape) {
             lexer = new Lexer(tape);
+            draft = new Matter();
         }
 
-        /** Whether THE TAPE is a MATTER; where it isn't, what was read so far is of no use. */
-        boolean readInto(Matter target) {
-            matter = target;
-            matter.clear();
+        /** Gives away what was read, for a MATTER that is used no more. */
+        Matter swapDraft(Matter used) {
+            Matter finished = draft;
+            draft = used;
+            return finished;
+        }
+
+        /** Whether THE TAPE is a MATTER; where it isn't, the draft is of no use. */
+        boolean read() {
+            draft.clear();
             clausesSeen = 0;
             undividedTold = 0;
             keptTold = 0;
@@ -589,12 +597,12 @@ public final class StepAway {
             if (!takeKeyword("sides") || !takeNumber(2, MOST_SIDES)) {
                 return false;
             }
-            matter.sides = lexer.number;
+            draft.sides = lexer.number;
             return takeSemicolon() && takeClauses();
         }
 
         private boolean takeClauses() {
-            matter.clauses = 1;
+            draft.clauses = 1;
             for (int i = 0; i <= TAPE_ROOM; i++) {
                 lexer.advance();
                 if (lexer.kind == Lexer.END) {
@@ -603,7 +611,7 @@ public final class StepAway {
                 if (!takeClause() || !takeSemicolon()) {
                     return false;
                 }
-                matter.clauses++;
+                draft.clauses++;
             }
             return true;
         }
@@ -619,10 +627,10 @@ public final class StepAway {
                 return takeKept();
             }
             if (lexer.spells("peace")) {
-                return onlyOnce(PEACE) && takeAmounts(matter.peace);
+                return onlyOnce(PEACE) && takeAmounts(draft.peace);
             }
             if (lexer.spells("breach")) {
-                return onlyOnce(BREACH) && takeAmounts(matter.breach);
+                return onlyOnce(BREACH) && takeAmounts(draft.breach);
             }
             if (lexer.spells("day")) {
                 return takeDay();
@@ -640,28 +648,28 @@ public final class StepAway {
         }
 
         private boolean takePiece() {
-            if (matter.pieces >= MOST_PIECES) {
+            if (draft.pieces >= MOST_PIECES) {
                 return refuse(ROOM);
             }
-            int k = matter.pieces;
+            int k = draft.pieces;
             if (!takeWord()) {
                 return false;
             }
-            matter.name[k] = lexer.wordCode();
-            if (matter.pieceNamed(matter.name[k]) != NONE) {
+            draft.name[k] = lexer.wordCode();
+            if (draft.pieceNamed(draft.name[k]) != NONE) {
                 return refuse(TWICE);
             }
-            if (!takeNumber(0, matter.sides - 1)) {
+            if (!takeNumber(0, draft.sides - 1)) {
                 return false;
             }
-            matter.owner[k] = lexer.number;
+            draft.owner[k] = lexer.number;
             if (!takeKeyword("parts") || !takeParts(k)
                     || !takeKeyword("worth") || !takeWorths(k)) {
                 return false;
             }
-            matter.kept[k] = 0;
-            matter.undivided[k] = false;
-            matter.pieces++;
+            draft.kept[k] = 0;
+            draft.undivided[k] = false;
+            draft.pieces++;
             return true;
         }
 
@@ -669,15 +677,15 @@ public final class StepAway {
             if (!takeNumber(1, MOST_PARTS)) {
                 return false;
             }
-            if (matter.product() * (lexer.number + 1) > MOST_STATES) {
+            if (draft.product() * (lexer.number + 1) > MOST_STATES) {
                 return refuse(OUT_OF_BOUNDS);
             }
-            matter.cutInto[k] = lexer.number;
+            draft.cutInto[k] = lexer.number;
             return true;
         }
 
         private boolean takeWorths(int k) {
-            for (int i = 0; i < matter.sides; i++) {
+            for (int i = 0; i < draft.sides; i++) {
                 lexer.advance();
                 boolean below = lexer.kind == Lexer.MINUS;
                 if (below) {
@@ -686,7 +694,7 @@ public final class StepAway {
                 if (!isNumber(0, MOST_WORTH)) {
                     return false;
                 }
-                matter.worth[k][i] = below ? -lexer.number : lexer.number;
+                draft.worth[k][i] = below ? -lexer.number : lexer.number;
             }
             return true;
         }
@@ -697,17 +705,17 @@ public final class StepAway {
                 return false;
             }
             undividedTold |= 1 << k;
-            matter.undivided[k] = true;
+            draft.undivided[k] = true;
             return true;
         }
 
         private boolean takeKept() {
             int k = takeKnownPiece(keptTold);
-            if (k == NONE || !takeNumber(0, matter.cutInto[k] - 1)) {
+            if (k == NONE || !takeNumber(0, draft.cutInto[k] - 1)) {
                 return false;
             }
             keptTold |= 1 << k;
-            matter.kept[k] = lexer.number;
+            draft.kept[k] = lexer.number;
             return true;
         }
 
@@ -716,7 +724,7 @@ public final class StepAway {
             if (!takeWord()) {
                 return NONE;
             }
-            int k = matter.pieceNamed(lexer.wordCode());
+            int k = draft.pieceNamed(lexer.wordCode());
             if (k == NONE) {
                 refuse(UNKNOWN);
                 return NONE;
@@ -729,7 +737,7 @@ public final class StepAway {
         }
 
         private boolean takeAmounts(int[] amounts) {
-            for (int i = 0; i < matter.sides; i++) {
+            for (int i = 0; i < draft.sides; i++) {
                 if (!takeNumber(0, MOST_WORTH)) {
                     return false;
                 }
@@ -742,7 +750,7 @@ public final class StepAway {
             if (!onlyOnce(DAY) || !takeNumber(0, 99)) {
                 return false;
             }
-            matter.day = lexer.number;
+            draft.day = lexer.number;
             return true;
         }
 
@@ -750,32 +758,32 @@ public final class StepAway {
             if (!onlyOnce(LUMP) || !takeNumber(1, 3)) {
                 return false;
             }
-            matter.lump = lexer.number;
+            draft.lump = lexer.number;
             return true;
         }
 
         private boolean takeMode() {
             lexer.advance();
             if (lexer.spells("turns")) {
-                matter.mode = TURNS;
+                draft.mode = TURNS;
                 return true;
             }
             if (lexer.spells("any")) {
-                matter.mode = ANY;
+                draft.mode = ANY;
                 return true;
             }
             if (lexer.spells("once")) {
-                matter.mode = ONCE;
+                draft.mode = ONCE;
                 return true;
             }
             return refuse(SYNTAX);
         }
 
         private boolean takeFirst() {
-            if (!onlyOnce(FIRST) || !takeNumber(0, matter.sides - 1)) {
+            if (!onlyOnce(FIRST) || !takeNumber(0, draft.sides - 1)) {
                 return false;
             }
-            matter.first = lexer.number;
+            draft.first = lexer.number;
             return true;
         }
 
@@ -783,7 +791,7 @@ public final class StepAway {
             if (!lexer.spells("pairs")) {
                 return refuse(SYNTAX);
             }
-            matter.pairs = true;
+            draft.pairs = true;
             return onlyOnce(PAIRS);
         }
 
@@ -831,24 +839,28 @@ public final class StepAway {
 
     /** The STATES of a MATTER, and what stopping in each and coming to END is worth to whom. */
     private static final class Space {
-        Matter matter;
+        private Matter matter;
         int states;
         int begin;
-        int goalState;
+        int endState;
         final int[] weight = new int[MOST_PIECES];
         final int[][] stops = new int[MOST_SIDES][MOST_STATES];
         final int[] goals = new int[MOST_SIDES];
         private final int[] margins = new int[MOST_SIDES];
 
+        Space(Matter laid) {
+            lay(laid);
+        }
+
         void lay(Matter laid) {
             matter = laid;
             states = 1;
             begin = 0;
-            goalState = 0;
+            endState = 0;
             for (int k = 0; k < laid.pieces; k++) {
                 weight[k] = states;
                 begin += laid.cutInto[k] * states;
-                goalState += laid.kept[k] * states;
+                endState += laid.kept[k] * states;
                 states *= laid.cutInto[k] + 1;
             }
             for (int i = 0; i < laid.sides; i++) {
@@ -863,17 +875,17 @@ public final class StepAway {
             for (int k = 0; k < matter.pieces; k++) {
                 int cutInto = matter.cutInto[k];
                 for (int still = cutInto; still >= 0; still--) {
-                    int share = share(matter.worth[k][side], still, cutInto);
+                    int share = shareOf(matter.worth[k][side], still, cutInto);
                     int from = still * weight[k];
                     for (int s = 0; s < weight[k]; s++) {
                         sums[from + s] = sums[s] + share;
                     }
                 }
             }
-            goals[side] = sums[goalState] + matter.peace[side];
+            goals[side] = sums[endState] + matter.peace[side];
         }
 
-        private static int share(int worth, int still, int cutInto) {
+        private static int shareOf(int worth, int still, int cutInto) {
             return cutInto > 0 ? worth * still / cutInto : 0;
         }
 
@@ -972,8 +984,6 @@ public final class StepAway {
      * <p>Pairs are never asked here: if two SIDES stay, then their sums stay too.
      */
     private static final class Rows {
-        private static final long ALL_STEPS = (1L << (MOST_STEPS + 1)) - 1;
-
         final long[][] layers = new long[MOST_SIDES][MOST_STATES];
         private final int[] still = new int[MOST_PIECES];
         private final long[] gathered = new long[MOST_SIDES];
@@ -981,24 +991,32 @@ public final class StepAway {
         private Space space;
         private Matter matter;
 
+        Rows(Space solved) {
+            solve(solved, solved.matter.breach);
+        }
+
         void solve(Space solved, int[] breach) {
             space = solved;
             matter = solved.matter;
             for (int i = 0; i < matter.sides; i++) {
-                Arrays.fill(layers[i], 0);
                 bestStop[i] = solved.goals[i] + breach[i];
+                clearLayer(layers[i]);
             }
             for (int k = 0; k < matter.pieces; k++) {
                 still[k] = matter.kept[k];
             }
-            int s = solved.goalState;
-            for (int i = 0; i < matter.sides; i++) {
-                layers[i][s] = 1;
-            }
             // no ROW comes to END from a STATE that has less of a PIECE than is left of it
+            int s = solved.endState;
             for (int i = 0; i < MOST_STATES && s != solved.begin; i++) {
                 s = nextState(s);
                 solveState(s);
+            }
+        }
+
+        /** Only END is SAFE so far, with no STEP to come. */
+        private void clearLayer(long[] layer) {
+            for (int s = 0; s < space.states; s++) {
+                layer[s] = s == space.endState ? 1 : 0;
             }
         }
 
@@ -1095,7 +1113,7 @@ public final class StepAway {
                 gathered[t] = gathered[t] << 1 & staying;
             }
             for (int waits = 1; waits <= MOST_STEPS; waits *= 2) {
-                int ahead = waits % sides;
+                int ahead = sides > 0 ? waits % sides : 0;
                 for (int t = 0; t < sides; t++) {
                     int later = t + ahead < sides ? t + ahead : t + ahead - sides;
                     layers[t][s] = gathered[t] | gathered[later] << waits & staying;
@@ -1107,7 +1125,7 @@ public final class StepAway {
         }
 
         long safeBits(int s, int turn) {
-            return layers[matter.mode == TURNS ? turn : 0][s] & ALL_STEPS;
+            return layers[matter.mode == TURNS ? turn : 0][s];
         }
 
         int fewest(int s, int turn) {
@@ -1131,10 +1149,12 @@ public final class StepAway {
 
         final int[][] gifts = new int[MOST_STEPS][MOST_SIDES];
         final int[] states = new int[MOST_STEPS + 1];
+        private final Rows rows;
         private int steps = NONE;
-        private Space space;
-        private Matter matter;
-        private Rows rows;
+
+        LeastRow(Rows rows) {
+            this.rows = rows;
+        }
 
         void forget() {
             steps = NONE;
@@ -1153,20 +1173,18 @@ public final class StepAway {
          * for whoever stays with more STEPS stays with fewer. So the least STEP that leads on
          * can be taken at once, and never is one that changes nothing, but a WAIT.
          */
-        void trace(Space tracedSpace, Rows tracedRows, int s, int turn) {
-            space = tracedSpace;
-            matter = tracedSpace.matter;
-            rows = tracedRows;
-            steps = tracedRows.fewest(s, turn);
+        void trace(int s, int turn) {
+            steps = rows.fewest(s, turn);
             states[0] = s;
             int side = turn;
             for (int k = 0; k < steps; k++) {
                 states[k + 1] = takeStep(k, side, steps - 1 - k);
-                side = matter.sideAfter(side);
+                side = rows.matter.sideAfter(side);
             }
         }
 
         private int takeStep(int k, int turn, int toCome) {
+            Matter matter = rows.matter;
             Arrays.fill(gifts[k], NONE);
             if (matter.mode == ANY) {
                 int gift = leastGift(states[k], ANYBODY, toCome);
@@ -1195,12 +1213,13 @@ public final class StepAway {
         }
 
         private int leastGift(int s, int side, int toCome) {
+            Matter matter = rows.matter;
             for (int k = 0; k < matter.pieces; k++) {
                 int owner = matter.owner[k];
                 if (side == ANYBODY || side == owner) {
                     int layer = rows.layerBehind(owner);
                     for (int many = 1; many <= MOST_PARTS; many++) {
-                        int behind = space.stateBehind(s, k, many);
+                        int behind = rows.space.stateBehind(s, k, many);
                         if (behind != NONE && rows.isSafe(layer, behind, toCome)) {
                             return k * GIFT_BASE + many;
                         }
@@ -1214,7 +1233,7 @@ public final class StepAway {
             if (gift == NONE) {
                 return s;
             }
-            return s - gift % GIFT_BASE * space.weight[gift / GIFT_BASE];
+            return s - gift % GIFT_BASE * rows.space.weight[gift / GIFT_BASE];
         }
     }
 
@@ -1223,37 +1242,44 @@ public final class StepAway {
         /** More than any stopping and all days together can be worth. */
         private static final int PLENTY = 100000;
 
-        private final Rows rows = new Rows();
+        private final Space space;
+        private final Rows rows;
         private final int[] breach = new int[MOST_SIDES];
         private final Matter altered = new Matter();
-        private final Space alteredSpace = new Space();
+        private final Space alteredSpace;
 
-        private boolean holds(Space space) {
-            rows.solve(space, breach);
-            return rows.fewest(space.begin, space.matter.first) != NONE;
+        Trials(Space space) {
+            this.space = space;
+            rows = new Rows(space);
+            alteredSpace = new Space(altered);
         }
 
-        private void addToAll(Space space, int added) {
+        private boolean holds(Space tried) {
+            rows.solve(tried, breach);
+            return rows.fewest(tried.begin, tried.matter.first) != NONE;
+        }
+
+        private void addToAll(int added) {
             for (int i = 0; i < space.matter.sides; i++) {
                 breach[i] = space.matter.breach[i] + added;
             }
         }
 
-        private boolean holdsWithAdded(Space space, int added) {
-            addToAll(space, added);
+        private boolean holdsWithAdded(int added) {
+            addToAll(added);
             return holds(space);
         }
 
         /** Halves what is in question: with more to lose, whoever stayed stays. */
-        int leastNeed(Space space) {
-            if (!holdsWithAdded(space, MOST_ADDED)) {
+        int leastNeed() {
+            if (!holdsWithAdded(MOST_ADDED)) {
                 return NONE;
             }
             int low = 0;
             int high = MOST_ADDED;
             for (int i = 0; i <= MOST_ADDED && low < high; i++) {
                 int middle = (low + high) / 2;
-                if (holdsWithAdded(space, middle)) {
+                if (holdsWithAdded(middle)) {
                     high = middle;
                 } else {
                     low = middle + 1;
@@ -1262,19 +1288,19 @@ public final class StepAway {
             return low;
         }
 
-        int leastForLastStep(Space space) {
-            addToAll(space, PLENTY);
+        int leastForLastStep() {
+            addToAll(PLENTY);
             rows.solve(space, breach);
             int least = MOST_ADDED + 1;
             for (int s = 0; s < space.states; s++) {
-                if (hasLastStep(space, s)) {
-                    least = Math.min(least, addedToStay(space, s));
+                if (hasLastStep(s)) {
+                    least = Math.min(least, addedToStay(s));
                 }
             }
             return least > MOST_ADDED ? NONE : least;
         }
 
-        private boolean hasLastStep(Space space, int s) {
+        private boolean hasLastStep(int s) {
             for (int turn = 0; turn < space.matter.sides; turn++) {
                 if ((rows.safeBits(s, turn) & 2) != 0) {
                     return true;
@@ -1283,7 +1309,7 @@ public final class StepAway {
             return false;
         }
 
-        private static int addedToStay(Space space, int s) {
+        private int addedToStay(int s) {
             int added = 0;
             for (int i = 0; i < space.matter.sides; i++) {
                 int margin = space.marginWithoutBreach(i, s, 1) + space.matter.breach[i];
@@ -1296,7 +1322,7 @@ public final class StepAway {
          * The more SIDE 0 pledges, the less SIDE 1 must: so what SIDE 1 pledges only falls while
          * that of SIDE 0 grows, and only lesser sums are tried than the least one so far.
          */
-        int leastPledge(Space space, int most, int what) {
+        int leastPledge(int most, int what) {
             int best0 = NONE;
             int best1 = NONE;
             int pledge1 = most;
@@ -1304,7 +1330,7 @@ public final class StepAway {
                 if (best0 != NONE) {
                     pledge1 = Math.min(pledge1, best0 + best1 - 1 - pledge0);
                 }
-                while (pledge1 >= 0 && holdsWithPledges(space, pledge0, pledge1)) {
+                while (pledge1 >= 0 && holdsWithPledges(pledge0, pledge1)) {
                     best0 = pledge0;
                     best1 = pledge1;
                     pledge1--;
@@ -1313,20 +1339,21 @@ public final class StepAway {
             return what == 0 ? best0 : best1;
         }
 
-        private boolean holdsWithPledges(Space space, int pledge0, int pledge1) {
-            addToAll(space, 0);
+        private boolean holdsWithPledges(int pledge0, int pledge1) {
+            addToAll(0);
             breach[0] += pledge0;
             breach[1] += pledge1;
             return holds(space);
         }
 
-        int leastCut(Matter matter, int k) {
-            altered.copyFrom(matter);
-            for (int cutInto = matter.kept[k] + 1; cutInto <= MOST_PARTS; cutInto++) {
+        int leastCut(int k) {
+            altered.copyFrom(space.matter);
+            addToAll(0);
+            for (int cutInto = altered.kept[k] + 1; cutInto <= MOST_PARTS; cutInto++) {
                 altered.cutInto[k] = cutInto;
                 if (altered.product() <= MOST_STATES) {
                     alteredSpace.lay(altered);
-                    if (holdsWithAdded(alteredSpace, 0)) {
+                    if (holds(alteredSpace)) {
                         return cutInto;
                     }
                 }
@@ -1334,20 +1361,21 @@ public final class StepAway {
             return NONE;
         }
 
-        int leastMove(Matter matter, int k, int side, boolean now) {
-            altered.copyFrom(matter);
+        int leastMove(int k, int side, boolean now) {
+            altered.copyFrom(space.matter);
             alteredSpace.lay(altered);
+            addToAll(0);
             for (int moved = 1; moved <= MOST_MOVED; moved++) {
-                altered.worth[k][side] = matter.worth[k][side] + moved;
+                altered.worth[k][side]++;
                 alteredSpace.layStops(side);
-                if (holdsWithAdded(alteredSpace, 0) != now) {
+                if (holds(alteredSpace) != now) {
                     return moved;
                 }
             }
             return NONE;
         }
 
-        int fewestWithTrust(Space space, int s, int turn, int trust) {
+        int fewestWithTrust(int s, int turn, int trust) {
             for (int i = 0; i < space.matter.sides; i++) {
                 breach[i] = space.matter.breach[i] * trust / 100;
             }
@@ -1362,9 +1390,8 @@ public final class StepAway {
 
         private final int[] states = new int[MOST_STEPS + 1];
         private final int[] margins = new int[MOST_SIDES];
-        private Space space;
-        private Matter matter;
-        private Tape tape;
+        private final Space space;
+        private final Tape tape;
         boolean heard = false;
         int brokenStep = NONE;
         int stopper = NONE;
@@ -1375,10 +1402,13 @@ public final class StepAway {
             heard = false;
         }
 
-        int hear(Space heardSpace, Tape heardTape, int late) {
-            space = heardSpace;
-            matter = heardSpace.matter;
-            tape = heardTape;
+        Hearing(Space space, Tape tape) {
+            this.space = space;
+            this.tape = tape;
+        }
+
+        int hear(int late) {
+            Matter matter = space.matter;
             int width = matter.mode == ONCE ? matter.sides : 1;
             if (width < 1 || tape.length > MOST_STEPS * width || tape.length % width != 0) {
                 return NONE;
@@ -1387,7 +1417,7 @@ public final class StepAway {
             int turn = matter.first;
             states[0] = space.begin;
             for (int k = 0; k < steps; k++) {
-                boolean over = states[k] == space.goalState;
+                boolean over = states[k] == space.endState;
                 int side = over ? NONE : firstToStop(k, steps - k, late);
                 int next = over || side != NONE ? NONE : stateBehindStep(k, turn);
                 if (next == NONE) {
@@ -1405,11 +1435,12 @@ public final class StepAway {
             stopper = side;
             endedIn = states[done];
             stepsDone = done;
-            return broken == NONE && endedIn == space.goalState ? 1 : 0;
+            return broken == NONE && endedIn == space.endState ? 1 : 0;
         }
 
         /** The SIDE that would stop ahead of STEP k, by what it thinks that there is. */
         private int firstToStop(int k, int toCome, int late) {
+            Matter matter = space.matter;
             int seen = states[Math.max(0, k - late)];
             for (int i = 0; i < matter.sides; i++) {
                 int thought = space.mixedState(i, states[k], seen);
@@ -1429,6 +1460,7 @@ public final class StepAway {
         }
 
         private int stateBehindStep(int k, int turn) {
+            Matter matter = space.matter;
             if (matter.mode != ONCE) {
                 return stateBehindSingle(states[k], tape.at(k), turn);
             }
@@ -1441,7 +1473,7 @@ public final class StepAway {
         }
 
         private int stateBehindSingle(int s, int sign, int turn) {
-            if (matter.mode == ANY) {
+            if (space.matter.mode == ANY) {
                 return stateBehindSign(s, sign, NONE);
             }
             return sign == NOTHING ? s : stateBehindSign(s, sign, turn);
@@ -1449,6 +1481,7 @@ public final class StepAway {
 
         /** The STATE behind the GIFT that a byte tells; the giver NONE: anybody. */
         private int stateBehindSign(int s, int sign, int giver) {
+            Matter matter = space.matter;
             int code = sign - NOTHING - 1;
             int k = code / MOST_PARTS;
             if (code < 0 || !matter.hasPiece(k)) {
@@ -1479,6 +1512,11 @@ public final class StepAway {
         private final int[] rightTold = new int[MOST_RIGHTS];
         private final int[] rightDeed = new int[MOST_RIGHTS];
         private final int[] rightStopped = new int[MOST_RIGHTS];
+        private final Space space;
+
+        Fears(Space space) {
+            this.space = space;
+        }
 
         void forget() {
             deeds = 0;
@@ -1553,7 +1591,7 @@ public final class StepAway {
             return (1L << many) - 1;
         }
 
-        int bestQuestion(Space space, int side, int n) {
+        int bestQuestion(int side, int n) {
             long fits = fitting(side, LAST_TELLING);
             int all = Long.bitCount(fits);
             int best = NONE;

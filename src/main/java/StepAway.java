@@ -381,18 +381,30 @@ public final class StepAway {
         }
 
         void advance() {
-            skipBlanks();
-            place = next;
-            int sign = tape.at(next);
-            if (isLetter(sign)) {
-                takeWord();
-            } else if (isDigit(sign)) {
-                takeNumber();
-            } else if (sign == NONE) {
-                kind = END;
-            } else {
+            byte[] bytes = tape.bytes;
+            int length = tape.length;
+            while (next < length && (bytes[next] == ' ' || bytes[next] == '\n')) {
                 next++;
-                kind = sign == ';' ? SEMICOLON : sign == '-' ? MINUS : WRONG;
+            }
+            place = next;
+            if (next >= length) {
+                kind = END;
+            } else if (bytes[next] >= 'a' && bytes[next] <= 'z') {
+                while (next < length && bytes[next] >= 'a' && bytes[next] <= 'z') {
+                    next++;
+                }
+                kind = next - place > LONGEST_WORD ? WRONG : WORD;
+            } else if (bytes[next] >= '0' && bytes[next] <= '9') {
+                number = 0;
+                while (next < length && bytes[next] >= '0' && bytes[next] <= '9') {
+                    // a run that is too long is refused, so what it overflows to is never read
+                    number = number * 10 + (bytes[next] - '0');
+                    next++;
+                }
+                kind = next - place > LONGEST_NUMBER ? WRONG : NUMBER;
+            } else {
+                kind = bytes[next] == ';' ? SEMICOLON : bytes[next] == '-' ? MINUS : WRONG;
+                next++;
             }
         }
 
@@ -415,41 +427,6 @@ public final class StepAway {
                 code = code * 32 + (tape.at(i) - 'a' + 1);
             }
             return code;
-        }
-
-        private void skipBlanks() {
-            while (next < tape.length && isBlank(tape.at(next))) {
-                next++;
-            }
-        }
-
-        private void takeWord() {
-            while (next < tape.length && isLetter(tape.at(next))) {
-                next++;
-            }
-            kind = next - place > LONGEST_WORD ? WRONG : WORD;
-        }
-
-        private void takeNumber() {
-            number = 0;
-            while (next < tape.length && isDigit(tape.at(next))) {
-                // a run that is too long is refused, so what it would overflow to is never read
-                number = number * 10 + (tape.at(next) - '0');
-                next++;
-            }
-            kind = next - place > LONGEST_NUMBER ? WRONG : NUMBER;
-        }
-
-        private static boolean isBlank(int sign) {
-            return sign == ' ' || sign == '\n';
-        }
-
-        private static boolean isLetter(int sign) {
-            return sign >= 'a' && sign <= 'z';
-        }
-
-        private static boolean isDigit(int sign) {
-            return sign >= '0' && sign <= '9';
         }
     }
 
@@ -598,20 +575,18 @@ public final class StepAway {
                 return false;
             }
             draft.sides = lexer.number;
-            return takeSemicolon() && takeClauses();
-        }
-
-        private boolean takeClauses() {
-            draft.clauses = 1;
             for (int i = 0; i <= TAPE_ROOM; i++) {
+                if (!takeSemicolon()) {
+                    return false;
+                }
+                draft.clauses++;
                 lexer.advance();
                 if (lexer.kind == Lexer.END) {
                     return true;
                 }
-                if (!takeClause() || !takeSemicolon()) {
+                if (!takeClause()) {
                     return false;
                 }
-                draft.clauses++;
             }
             return true;
         }
@@ -663,25 +638,17 @@ public final class StepAway {
                 return false;
             }
             draft.owner[k] = lexer.number;
-            if (!takeKeyword("parts") || !takeParts(k)
-                    || !takeKeyword("worth") || !takeWorths(k)) {
-                return false;
-            }
-            draft.kept[k] = 0;
-            draft.undivided[k] = false;
-            draft.pieces++;
-            return true;
-        }
-
-        private boolean takeParts(int k) {
-            if (!takeNumber(1, MOST_PARTS)) {
+            if (!takeKeyword("parts") || !takeNumber(1, MOST_PARTS)) {
                 return false;
             }
             if (draft.product() * (lexer.number + 1) > MOST_STATES) {
                 return refuse(OUT_OF_BOUNDS);
             }
             draft.cutInto[k] = lexer.number;
-            return true;
+            draft.kept[k] = 0;
+            draft.undivided[k] = false;
+            draft.pieces++;
+            return takeKeyword("worth") && takeWorths(k);
         }
 
         private boolean takeWorths(int k) {
@@ -827,7 +794,8 @@ public final class StepAway {
             if (lexer.kind != Lexer.NUMBER) {
                 return refuse(SYNTAX);
             }
-            return within(lexer.number, low, high) || refuse(OUT_OF_BOUNDS);
+            boolean inBounds = lexer.number >= low && lexer.number <= high;
+            return inBounds || refuse(OUT_OF_BOUNDS);
         }
 
         private boolean refuse(int kind) {
@@ -985,6 +953,8 @@ public final class StepAway {
      */
     private static final class Rows {
         final long[][] layers = new long[MOST_SIDES][MOST_STATES];
+        /** The layer in which a STATE lies when a SIDE has given, or not. */
+        final int[] layerBehind = new int[MOST_SIDES];
         private final int[] still = new int[MOST_PIECES];
         private final long[] gathered = new long[MOST_SIDES];
         private final int[] bestStop = new int[MOST_SIDES];
@@ -1000,6 +970,7 @@ public final class StepAway {
             matter = solved.matter;
             for (int i = 0; i < matter.sides; i++) {
                 bestStop[i] = solved.goals[i] + breach[i];
+                layerBehind[i] = layerBehindSide(i);
                 clearLayer(layers[i]);
             }
             for (int k = 0; k < matter.pieces; k++) {
@@ -1011,6 +982,13 @@ public final class StepAway {
                 s = nextState(s);
                 solveState(s);
             }
+        }
+
+        private int layerBehindSide(int side) {
+            if (matter.mode == TURNS) {
+                return matter.sideAfter(side);
+            }
+            return matter.mode == ONCE ? matter.sides - 1 - side : 0;
         }
 
         /** Only END is SAFE so far, with no STEP to come. */
@@ -1070,7 +1048,7 @@ public final class StepAway {
                 int spare = still[k] - matter.kept[k];
                 if (spare > 0) {
                     int side = matter.owner[k];
-                    long[] behind = layers[layerBehind(side)];
+                    long[] behind = layers[layerBehind[side]];
                     int weight = space.weight[k];
                     if (matter.undivided[k]) {
                         gathered[side] |= behind[s - spare * weight];
@@ -1082,14 +1060,6 @@ public final class StepAway {
                     }
                 }
             }
-        }
-
-        /** The layer in which a STATE lies when a SIDE has given, or not. */
-        int layerBehind(int side) {
-            if (matter.mode == TURNS) {
-                return matter.sideAfter(side);
-            }
-            return matter.mode == ONCE ? matter.sides - 1 - side : 0;
         }
 
         private void layOnce(int s, long staying) {
@@ -1205,7 +1175,7 @@ public final class StepAway {
 
         /** What one SIDE does within a STEP: nothing if that leads on, else its least GIFT. */
         private int takeShare(int k, int side, int s, int toCome) {
-            if (rows.isSafe(rows.layerBehind(side), s, toCome)) {
+            if (rows.isSafe(rows.layerBehind[side], s, toCome)) {
                 return s;
             }
             gifts[k][side] = leastGift(s, side, toCome);
@@ -1217,7 +1187,7 @@ public final class StepAway {
             for (int k = 0; k < matter.pieces; k++) {
                 int owner = matter.owner[k];
                 if (side == ANYBODY || side == owner) {
-                    int layer = rows.layerBehind(owner);
+                    int layer = rows.layerBehind[owner];
                     for (int many = 1; many <= MOST_PARTS; many++) {
                         int behind = rows.space.stateBehind(s, k, many);
                         if (behind != NONE && rows.isSafe(layer, behind, toCome)) {
@@ -1254,32 +1224,25 @@ public final class StepAway {
             alteredSpace = new Space(altered);
         }
 
-        private boolean holds(Space tried) {
+        private boolean holds(Space tried, int added0, int added1, int added2) {
+            int[] told = space.matter.breach;
+            breach[0] = told[0] + added0;
+            breach[1] = told[1] + added1;
+            breach[2] = told[2] + added2;
             rows.solve(tried, breach);
             return rows.fewest(tried.begin, tried.matter.first) != NONE;
         }
 
-        private void addToAll(int added) {
-            for (int i = 0; i < space.matter.sides; i++) {
-                breach[i] = space.matter.breach[i] + added;
-            }
-        }
-
-        private boolean holdsWithAdded(int added) {
-            addToAll(added);
-            return holds(space);
-        }
-
         /** Halves what is in question: with more to lose, whoever stayed stays. */
         int leastNeed() {
-            if (!holdsWithAdded(MOST_ADDED)) {
+            if (!holds(space, MOST_ADDED, MOST_ADDED, MOST_ADDED)) {
                 return NONE;
             }
             int low = 0;
             int high = MOST_ADDED;
             for (int i = 0; i <= MOST_ADDED && low < high; i++) {
                 int middle = (low + high) / 2;
-                if (holdsWithAdded(middle)) {
+                if (holds(space, middle, middle, middle)) {
                     high = middle;
                 } else {
                     low = middle + 1;
@@ -1289,7 +1252,7 @@ public final class StepAway {
         }
 
         int leastForLastStep() {
-            addToAll(PLENTY);
+            Arrays.fill(breach, PLENTY);
             rows.solve(space, breach);
             int least = MOST_ADDED + 1;
             for (int s = 0; s < space.states; s++) {
@@ -1330,7 +1293,7 @@ public final class StepAway {
                 if (best0 != NONE) {
                     pledge1 = Math.min(pledge1, best0 + best1 - 1 - pledge0);
                 }
-                while (pledge1 >= 0 && holdsWithPledges(pledge0, pledge1)) {
+                while (pledge1 >= 0 && holds(space, pledge0, pledge1, 0)) {
                     best0 = pledge0;
                     best1 = pledge1;
                     pledge1--;
@@ -1339,21 +1302,13 @@ public final class StepAway {
             return what == 0 ? best0 : best1;
         }
 
-        private boolean holdsWithPledges(int pledge0, int pledge1) {
-            addToAll(0);
-            breach[0] += pledge0;
-            breach[1] += pledge1;
-            return holds(space);
-        }
-
         int leastCut(int k) {
             altered.copyFrom(space.matter);
-            addToAll(0);
             for (int cutInto = altered.kept[k] + 1; cutInto <= MOST_PARTS; cutInto++) {
                 altered.cutInto[k] = cutInto;
                 if (altered.product() <= MOST_STATES) {
                     alteredSpace.lay(altered);
-                    if (holds(alteredSpace)) {
+                    if (holds(alteredSpace, 0, 0, 0)) {
                         return cutInto;
                     }
                 }
@@ -1364,11 +1319,10 @@ public final class StepAway {
         int leastMove(int k, int side, boolean now) {
             altered.copyFrom(space.matter);
             alteredSpace.lay(altered);
-            addToAll(0);
             for (int moved = 1; moved <= MOST_MOVED; moved++) {
                 altered.worth[k][side]++;
                 alteredSpace.layStops(side);
-                if (holds(alteredSpace) != now) {
+                if (holds(alteredSpace, 0, 0, 0) != now) {
                     return moved;
                 }
             }

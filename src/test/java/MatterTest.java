@@ -13,6 +13,7 @@ public final class MatterTest {
         matter();
         faults();
         order();
+        names();
         toldAndPiece();
         states();
         gifts();
@@ -108,6 +109,9 @@ public final class MatterTest {
         C.fault("sides -2;", 1, 6);
         C.fault("sides 2; sides 2;", 1, 9);
         C.fault("sides 2; ;", 1, 9);
+        C.fault("tides 2;", 1, 0);
+        C.fault("sidez 2;", 1, 0);
+        C.fault("sides 2; dax 1;", 1, 9);
         C.fault("sides 2; Day 1;", 1, 9);
         C.fault("sides 2;\tday 1;", 1, 8);
         C.fault("sides 2; day 1; pairs", 1, 21);
@@ -158,6 +162,21 @@ public final class MatterTest {
         String product = "sides 2;piece a 0 parts 9 worth 1 1;piece b 0 parts 9 worth 1 1;";
         C.due("400 states", Check.of(product + "piece c 0 parts 3 worth 1 1;").told(7), 400);
         C.fault(product + "piece c 0 parts 4", 2, product.length() + 16);
+    }
+
+    /** Names are apart if any letter is, or their lengths are. */
+    private static void names() {
+        String[] names = {"a", "aa", "b", "ab", "ba", "z", "zz", "aaaaaaaa", "aaaaaaa", "zaaaaaaa",
+            "aaaaaaab", "zzzzzzzz", "yzzzzzzz"};
+        for (String one : names) {
+            for (String other : names) {
+                String text = "sides 2;piece " + one + " 0 parts 1 worth 1 1;piece " + other
+                        + " 1 parts 1 worth 1 1;";
+                C.due(text, Check.matter(new StepAway(), text), one.equals(other) ? -1 : 3);
+                String whole = "sides 2;piece " + one + " 0 parts 1 worth 1 1;whole " + other + ";";
+                C.due(whole, Check.matter(new StepAway(), whole), one.equals(other) ? 3 : -1);
+            }
+        }
     }
 
     private static void toldAndPiece() {

@@ -18,6 +18,7 @@ public final class FearsTest {
     }
 
     private static void did() {
+        C.due("a new object", new StepAway().did(0, 1, 0, 1, 0), 0);
         StepAway x = hill();
         C.due("told -1", x.did(-1, 0, 2, 1, 0), -2);
         C.due("told 1000", x.did(1000, 0, 2, 1, 0), -2);

@@ -14,6 +14,7 @@ public final class MatterTest {
         faults();
         order();
         names();
+        untold();
         toldAndPiece();
         states();
         gifts();
@@ -162,6 +163,32 @@ public final class MatterTest {
         String product = "sides 2;piece a 0 parts 9 worth 1 1;piece b 0 parts 9 worth 1 1;";
         C.due("400 states", Check.of(product + "piece c 0 parts 3 worth 1 1;").told(7), 400);
         C.fault(product + "piece c 0 parts 4", 2, product.length() + 16);
+    }
+
+    /** What a MATTER doesn't tell is as the document says, whatever was told ahead of it. */
+    private static void untold() {
+        StepAway x = new StepAway();
+        String bare = "sides 3;piece hill 0 parts 5 worth 0 0 0;piece ford 0 parts 3 worth 0 0 0;";
+        int[] want = {3, 2, 0, 1, 0, 0, 0, 24, -1, -1, 0, 0, 0, -1};
+        for (int times = 0; times < 4; times++) {
+            C.due("all told", Check.matter(x, MIXED), 13);
+            C.due("a fault when all was told", Check.matter(x, MIXED + "day 1"), -1);
+            C.due("little told", Check.matter(x, bare), 3);
+            for (int what = 0; what < want.length; what++) {
+                C.due("untold: told(" + what + ")", x.told(what), want[what]);
+            }
+            for (int i = 0; i < 3; i++) {
+                C.due("no breach", x.told(20 + i), 0);
+            }
+            for (int k = 0; k < 2; k++) {
+                C.due("nothing left", x.piece(k, 2), 0);
+                C.due("not whole", x.piece(k, 3), 0);
+            }
+            C.due("end is 0", x.corner(1), 0);
+            if (times == 1) {
+                C.due("all told once more", Check.matter(x, MIXED), 13);
+            }
+        }
     }
 
     /** Names are apart if any letter is, or their lengths are. */

@@ -46,6 +46,8 @@ public final class PlainModelTest {
         int most = random.nextInt(12) == 0 ? 400 : 40;
         int size = random.nextInt(12) == 0 ? 0 : 1 + random.nextInt(6);
         int worth = new int[] {3, 12, 30, 999}[random.nextInt(4)];
+        // arms are worth something to who has them, and the same or so less to the others
+        boolean arms = random.nextInt(5) < 3;
         for (int k = 0; k < size; k++) {
             PlainModel.Piece p = new PlainModel.Piece();
             p.name = Character.toString((char) ('a' + k));
@@ -56,9 +58,8 @@ public final class PlainModelTest {
             p.v = new int[3];
             for (int i = 0; i < m.sides; i++) {
                 p.v[i] = random.nextInt(2 * worth + 1) - worth;
-                // what one has is mostly worth more to it than to the others
-                if (i == p.side && random.nextBoolean()) {
-                    p.v[i] = Math.abs(p.v[i]);
+                if (arms) {
+                    p.v[i] = i == p.side ? Math.abs(p.v[i]) : -Math.abs(p.v[i]);
                 }
             }
             m.pieces.add(p);
@@ -68,7 +69,7 @@ public final class PlainModelTest {
             }
         }
         int peace = random.nextInt(Math.min(999, 1 + 2 * worth)) + 1;
-        int breach = random.nextInt(Math.min(999, 1 + worth)) + 1;
+        int breach = random.nextInt(Math.min(999, 1 + (arms ? 2 * worth : worth))) + 1;
         for (int i = 0; i < m.sides; i++) {
             m.peace[i] = random.nextInt(peace);
             m.breach[i] = random.nextInt(breach);

@@ -62,6 +62,10 @@ public final class RowsTest {
                 + "piece b 2 parts 1 worth 0 0 0; first 1;");
         C.due("find(3, 1)", three.find(3, 1), 3);
         row(three, new int[][] {{-1, -1, -1}, {-1, -1, 11}, {1, -1, -1}});
+        StepAway crossed = Check.of("sides 2; piece b 1 parts 2 worth -10 10;"
+                + "piece a 0 parts 2 worth 10 -10; peace 4 4; breach 1 1;");
+        C.due("the first PIECE is the other's", crossed.find(8, 0), 4);
+        row(crossed, new int[][] {{11, -1}, {-1, 1}, {11, -1}, {-1, 1}});
         StepAway two = Check.of("sides 2; piece a 1 parts 1 worth 0 0;"
                 + "piece b 1 parts 1 worth 0 0; first 1;");
         C.due("the least gift first", two.find(3, 1), 3);
@@ -172,6 +176,20 @@ public final class RowsTest {
         C.due("both", way.pledge(60, 1), 25);
         C.due("just enough", way.pledge(25, 1), 25);
         C.due("not enough", way.pledge(24, 0), -1);
+        // a first: SIDE 1 would have 10 against 4; b first: SIDE 0 would have 7 against 4
+        StepAway either = Check.of("sides 2; piece a 0 parts 1 worth 7 -10;"
+                + "piece b 1 parts 1 worth -10 10; peace 4 4; mode any;");
+        C.due("the lesser sum", either.pledge(60, 0), 3);
+        C.due("the lesser sum", either.pledge(60, 1), 0);
+        C.due("just enough", either.pledge(3, 0), 3);
+        C.due("not enough", either.pledge(2, 0), -1);
+        StepAway even = Check.of("sides 2; piece a 0 parts 1 worth 10 -10;"
+                + "piece b 1 parts 1 worth -10 10; peace 4 4; mode any;");
+        C.due("of equal sums the least for SIDE 0", even.pledge(60, 0), 0);
+        C.due("of equal sums the least for SIDE 0", even.pledge(60, 1), 6);
+        C.due("added to what is told", Check.of("sides 2; piece a 0 parts 1 worth 7 -10;"
+                + "piece b 1 parts 1 worth -10 10; peace 4 4; mode any; breach 0 4;")
+                .pledge(60, 1), 2);
         StepAway third = Check.of("sides 3; piece a 0 parts 1 worth 0 0 3;");
         C.due("the third can't be held", third.pledge(60, 0), -1);
         C.due("need holds it", third.need(), 3);
@@ -191,6 +209,25 @@ public final class RowsTest {
         StepAway room = Check.of("sides 2; piece a 0 parts 8 worth 0 0; piece b 0 parts 8 worth 0 0;"
                 + "piece c 1 parts 1 worth 0 9; mode any; peace 0 6;");
         C.due("no room for it", room.cut(2), -1);
+        StepAway full = Check.of("sides 2; piece a 1 parts 9 worth 0 0;"
+                + "piece b 1 parts 9 worth 0 0; piece c 0 parts 1 worth 0 -9; breach 0 0;"
+                + "left c 0; mode any; peace 0 0;");
+        C.due("one is enough", full.cut(2), 1);
+        // b can't begin: SIDE 0 would have 10 against 9; a may if 90 / p is 10 at most
+        StepAway nine = Check.of("sides 2; piece a 0 parts 1 worth 90 -90;"
+                + "piece b 1 parts 9 worth -90 90; peace 9 10; mode any; breach 0 0;");
+        C.due("nine", nine.cut(0), 9);
+        StepAway eight = Check.of("sides 2; piece a 0 parts 1 worth 90 -90;"
+                + "piece b 1 parts 9 worth -90 90; peace 9 9; mode any; breach 0 0;");
+        C.due("not even nine", eight.cut(0), -1);
+        // 10 * 10 * 4: three parts are just within 400, and none fewer hold
+        String rest = "piece c 1 parts 1 worth 30 -30; piece b 0 parts 9 worth -30 30; mode any;";
+        String large = "sides 2; piece a 0 parts 9 worth 0 0;" + rest;
+        C.due("just within 400", Check.of(large + "peace 7 7;").cut(1), 3);
+        // four parts are needed: 10 * 10 * 5 are too many, 2 * 10 * 5 are not
+        C.due("above 400", Check.of(large + "peace 5 5;").cut(1), -1);
+        C.due("within 400", Check.of("sides 2; piece a 0 parts 1 worth 0 0;" + rest
+                + "peace 5 5;").cut(1), 4);
         StepAway fine = Check.of("sides 2; piece a 0 parts 1 worth 0 0;"
                 + "piece c 0 parts 1 worth 0 -10; mode any; breach 0 0;");
         C.due("one is enough", fine.cut(1), 1);

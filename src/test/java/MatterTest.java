@@ -12,6 +12,7 @@ public final class MatterTest {
         feedAndEnd();
         matter();
         faults();
+        cutOff();
         order();
         names();
         untold();
@@ -140,6 +141,24 @@ public final class MatterTest {
         C.fault("sides 2; whole a", 5, 15);
         C.fault("sides 2; left a", 5, 14);
         C.fault("sides 2; left 1", 1, 14);
+    }
+
+    /** What stood behind the end of THE TAPE is no part of a text. */
+    private static void cutOff() {
+        StepAway x = new StepAway();
+        Check.tape(x, "sides 23");
+        x.end(7);
+        C.due("a number that was cut off", x.matter(), -1);
+        C.due("its kind", x.fault(0), 1);
+        C.due("its place", x.fault(1), 7);
+        Check.tape(x, "sides 2; pairss");
+        x.end(14);
+        C.due("a word that was cut off", x.matter(), -1);
+        C.due("its kind", x.fault(0), 1);
+        C.due("its place", x.fault(1), 14);
+        Check.tape(x, "sides 3; day");
+        x.end(8);
+        C.due("a clause that was cut off", x.matter(), 1);
     }
 
     /** The first FAULT come to, of one TOKEN the least KIND; TWICE and ROOM. */

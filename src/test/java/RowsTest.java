@@ -181,6 +181,10 @@ public final class RowsTest {
                 + "piece b 1 parts 1 worth -10 10; peace 4 4; mode any;");
         C.due("the lesser sum", either.pledge(60, 0), 3);
         C.due("the lesser sum", either.pledge(60, 1), 0);
+        StepAway less = Check.of("sides 2; piece a 0 parts 1 worth 9 -10;"
+                + "piece b 1 parts 1 worth -10 10; peace 4 4; mode any;");
+        C.due("a sum that is one less", less.pledge(60, 0), 5);
+        C.due("a sum that is one less", less.pledge(60, 1), 0);
         C.due("just enough", either.pledge(3, 0), 3);
         C.due("not enough", either.pledge(2, 0), -1);
         StepAway even = Check.of("sides 2; piece a 0 parts 1 worth 10 -10;"
@@ -193,6 +197,8 @@ public final class RowsTest {
         StepAway third = Check.of("sides 3; piece a 0 parts 1 worth 0 0 3;");
         C.due("the third can't be held", third.pledge(60, 0), -1);
         C.due("need holds it", third.need(), 3);
+        C.due("not even by 1",
+                Check.of("sides 3; piece a 0 parts 1 worth 0 0 1;").pledge(60, 0), -1);
         C.due("none needed", new StepAway().pledge(0, 0), 0);
     }
 

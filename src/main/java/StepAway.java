@@ -109,7 +109,8 @@ public final class StepAway {
 
     public int piece(int k, int what) {
         boolean known = held.hasPiece(k);
-        if (what >= 10) {
+        // a V is asked for by each SIDE that a MATTER may have, though this one may have fewer
+        if (within(what, 10, 10 + MOST_SIDES - 1)) {
             return known && held.hasSide(what - 10) ? held.worth[k][what - 10] : NO_WORTH;
         }
         if (!known) {

@@ -248,14 +248,35 @@ public final class MatterTest {
         C.due("piece(0, 10)", x.piece(0, 10), 7);
         C.due("piece(0, 12)", x.piece(0, 12), 999);
         C.due("piece(1, 10)", x.piece(1, 10), -100);
-        C.due("piece(1, 13)", x.piece(1, 13), -2000);
         C.due("piece(2, 10)", x.piece(2, 10), -2000);
         C.due("piece(-1, 12)", x.piece(-1, 12), -2000);
+        C.due("piece(MAX, 11)", x.piece(Integer.MAX_VALUE, 11), -2000);
         C.due("piece(2, 3)", x.piece(2, 3), -1);
-        C.due("piece(0, -1)", x.piece(0, -1), -1);
-        C.due("piece(0, 9)", x.piece(0, 9), -1);
+        otherThanOfPieces(x, 2);
+        StepAway two = Check.of(TWO);
+        C.due("piece(0, 12) of two", two.piece(0, 12), -2000);
+        otherThanOfPieces(two, two.told(1));
+        StepAway fresh = new StepAway();
+        for (int what = 0; what < 4; what++) {
+            C.due("piece(0, " + what + ") of none", fresh.piece(0, what), -1);
+        }
+        for (int what = 10; what < 13; what++) {
+            C.due("piece(0, " + what + ") of none", fresh.piece(0, what), -2000);
+        }
+        otherThanOfPieces(fresh, 0);
         C.due("fault(2)", x.fault(2), -1);
         C.due("fault(-1)", x.fault(-1), -1);
+    }
+
+    /** No V is asked for by a what that no SIDE has: NONE, whether there is the PIECE or not. */
+    private static void otherThanOfPieces(StepAway x, int pieces) {
+        int[] others = {Integer.MIN_VALUE, -1, 4, 5, 6, 7, 8, 9, 13, 14, 19, 20, 22, 100, 255, 266,
+            623321319, Integer.MAX_VALUE};
+        for (int k = -1; k <= pieces; k++) {
+            for (int what : others) {
+                C.due("piece(" + k + ", " + what + ")", x.piece(k, what), -1);
+            }
+        }
     }
 
     private static void states() {

@@ -16,6 +16,7 @@ public final class StateEdgesTest {
         pairsTogether();
         stepsToCome();
         atEndItself();
+        giftsWithinRows();
         waitsInTurnsAlone();
         turnsGoRound();
         atOnce();
@@ -261,6 +262,35 @@ public final class StateEdgesTest {
         }
     }
 
+    /** "1 .. lump parts .. (of a whole one: all that are above left)": within rows. */
+    private static void giftsWithinRows() {
+        String nine = "sides 2;piece a 0 parts 9 worth 0 0;mode ";
+        for (String mode : new String[] {"any;", "once;"}) {
+            C.due("one by one", Check.of(nine + mode).safe(9, 0), 1L << 9);
+            C.due("one or two", Check.of(nine + mode + "lump 2;").safe(9, 0), 0x3e0);
+            C.due("one to three", Check.of(nine + mode + "lump 3;").safe(9, 0), 0x3f8);
+            C.due("down to left", Check.of(nine + mode + "lump 3;left a 4;").safe(9, 0), 0x3c);
+            for (int lump = 1; lump <= 3; lump++) {
+                StepAway whole = Check.of(nine + mode + "whole a;lump " + lump + ";");
+                C.due("all at once", whole.safe(9, 0), 2);
+                C.due("all at once", whole.find(9, 0), 1);
+                C.due("nine of them", whole.row(0, 0), 9);
+            }
+        }
+        StepAway two = Check.of("sides 2;piece a 0 parts 2 worth 0 0;piece b 0 parts 3 worth 0 0;"
+                + "whole a;whole b;left b 1;mode any;");
+        C.due("either first", two.safe(11, 0), 4);
+        C.due("a is less", two.find(11, 0), 2);
+        C.due("all of a", two.row(0, 0), 2);
+        C.due("all of b above left", two.row(1, 0), 12);
+        // SIDE 1 would stop where it has 9 still, but not the other one: that one is given last
+        String text = "sides 2;piece a 0 parts 2 worth 0 -9;piece b 0 parts 2 worth 0 9;whole a;whole b;"
+                + "mode any;";
+        C.due("b first", Check.of(text).find(8, 0), 2);
+        C.due("a first", Check.of(text.replace("-9", "x").replace("9", "-9").replace("x", "9"))
+                .find(8, 0), 2);
+    }
+
     /** turns: "one GIFT by the SIDE whose turn it is, or none (a WAIT)"; any: "one GIFT". */
     private static void waitsInTurnsAlone() {
         String text = "sides 2;piece a 0 parts 1 worth 0 0;mode ";
@@ -385,6 +415,11 @@ public final class StateEdgesTest {
         C.due("1", wait.row(1, 0), 1);
         C.due("then b, since no turn of SIDE 1 comes later", wait.row(2, 1), 11);
         C.due("1", wait.row(3, 0), 1);
+        StepAway others = Check.of("sides 2;piece b 1 parts 1 worth 0 0;piece a 0 parts 1 worth 0 0;");
+        C.due("two from SIDE 0", others.find(3, 0), 2);
+        C.due("of its own, though the other's is less", others.row(0, 0), 11);
+        C.due("not the other", others.row(0, 1), -1);
+        C.due("then the other", others.row(1, 1), 1);
         StepAway once = Check.of("sides 2;piece a 0 parts 1 worth 0 0;piece b 1 parts 2 worth 0 0;"
                 + "mode once;");
         C.due("two STEPS", once.find(5, 0), 2);

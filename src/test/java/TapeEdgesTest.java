@@ -11,6 +11,7 @@ public final class TapeEdgesTest {
         othersDontEmpty();
         blanksAreTwo();
         wordsOfEight();
+        everyLetterOfAWord();
         numbersOfFour();
         textsThatEndEarly();
         asManyAsSides();
@@ -25,6 +26,7 @@ public final class TapeEdgesTest {
         clausesCounted();
         aFaultStays();
         aMatterForgets();
+        whatIsntTold();
         othersAreNone();
         C.finish();
     }
@@ -101,6 +103,14 @@ public final class TapeEdgesTest {
                 0x20202020), 28);
         C.due("both", x.matter(), 2);
         C.due("day 5", x.told(2), 5);
+        String[] texts = {"sides 23;", "sides 2; pairsa;", "sides 2; day 1;", "sides 2;day 99;"};
+        int[] cutAt = {7, 14, 12, 13};
+        for (int i = 0; i < texts.length; i++) {
+            Check.tape(x, texts[i]);
+            x.end(cutAt[i]);
+            C.due("cut off", x.matter(), -1);
+            C.due("at the end that it has now", x.fault(1), cutAt[i]);
+        }
     }
 
     /** "each call that reads it empties it, whatever it tells". */
@@ -202,6 +212,29 @@ public final class TapeEdgesTest {
         C.fault("sides 2;piece abcdefgH 0", 1, 21);
         C.fault("sides 2;piece ab`cd 0", 1, 16);
         C.fault("sides 2;piece ab{cd 0", 1, 16);
+    }
+
+    /** A WORD of the text with one letter changed, left out or doubled is no such WORD. */
+    private static void everyLetterOfAWord() {
+        String[] words = {"sides", "parts", "worth", "turns", "any", "once", "whole", "left", "peace",
+            "breach", "day", "lump", "mode", "first", "pairs", "piece"};
+        String clause = "sides 2;" + A;
+        String mode = "sides 2;mode ";
+        String[] ahead = {"", "sides 2;piece a 0 ", "sides 2;piece a 0 parts 1 ", mode, mode, mode,
+            clause, clause, clause, clause, clause, clause, clause, clause, clause, clause};
+        for (int w = 0; w < words.length; w++) {
+            String word = words[w];
+            for (int i = 0; i < word.length(); i++) {
+                char other = word.charAt(i) == 'q' ? 'x' : 'q';
+                String[] wrong = {word.substring(0, i) + other + word.substring(i + 1),
+                    word.substring(0, i) + word.charAt(i) + word.substring(i)};
+                for (String not : wrong) {
+                    C.fault(ahead[w] + not + " 1", 1, ahead[w].length());
+                }
+                String less = word.substring(0, i) + word.substring(i + 1);
+                C.fault(ahead[w] + less + " 1", 1, ahead[w].length());
+            }
+        }
     }
 
     /** "N (digits, as many as there are, 4 at most)". */
@@ -428,6 +461,8 @@ public final class TapeEdgesTest {
                     C.fault("sides 2;" + clause + A + other, 3, 8 + clause.length() + A.length());
                 } else {
                     ok(text, 3);
+                    C.fault(text + clause, 3, text.length());
+                    C.fault(text + other, 3, text.length());
                 }
             }
         }
@@ -442,6 +477,14 @@ public final class TapeEdgesTest {
         ok(both + "whole a;left a 0;left b 0;whole b;", 7);
         C.fault(both + "piece b", 3, both.length() + 6);
         C.fault("sides 2;sides 2;", 1, 8);
+        StepAway x = new StepAway();
+        String all = "sides 2;" + A + "whole a;left a 1;peace 1 1;breach 1 1;day 1;lump 1;mode any;"
+                + "first 1;pairs;";
+        for (int times = 0; times < 3; times++) {
+            C.due("a new text is told once", Check.matter(x, all), 11);
+            C.due("again in one text", Check.matter(x, all + "whole a;"), -1);
+            C.due("twice", x.fault(0), 3);
+        }
     }
 
     /** "UNKNOWN: a W behind whole, left that is no PIECE": not one that comes later, either. */
@@ -528,6 +571,37 @@ public final class TapeEdgesTest {
         C.due("nothing to be put right", x.right(0, 0, 1), -2);
         C.due("all fits", x.fit(0, 999), (1L << 41) - 1);
         C.due("the latest STEP of telling is 0", x.did(0, 0, 3, 1, 1), 0);
+    }
+
+    /** "Bounds (and what isn't told)": as if new, whatever the matter ahead of it told. */
+    private static void whatIsntTold() {
+        StepAway x = new StepAway();
+        String head = "sides 3;piece a 2 parts 3 worth 1 1 1;piece b 1 parts 2 worth 1 1 1;";
+        int[] full = {3, 2, 9, 3, 2, 2, 1, 12, -1, -1, 7, 8, 9};
+        int[] bare = {3, 2, 0, 1, 0, 0, 0, 12, -1, -1, 0, 0, 0};
+        for (int times = 0; times < 3; times++) {
+            Check.matter(x, head + "peace 7 8 9;breach 4 5 6;day 9;lump 3;mode once;first 2;pairs;"
+                    + "whole a;left a 2;whole b;left b 1;");
+            for (int what = 0; what < full.length; what++) {
+                C.due("told(" + what + ")", x.told(what), full[what]);
+            }
+            for (int k = 0; k < 2; k++) {
+                C.due("left", x.piece(k, 2), 2 - k);
+                C.due("whole", x.piece(k, 3), 1);
+                C.due("breach", x.told(20 + k), 4 + k);
+            }
+            C.due("END", x.corner(1), 6);
+            Check.matter(x, head);
+            for (int what = 0; what < bare.length; what++) {
+                C.due("untold: told(" + what + ")", x.told(what), bare[what]);
+            }
+            for (int k = 0; k < 2; k++) {
+                C.due("none left", x.piece(k, 2), 0);
+                C.due("not whole", x.piece(k, 3), 0);
+                C.due("no breach", x.told(20 + k), 0);
+            }
+            C.due("END", x.corner(1), 0);
+        }
     }
 
     /** "NONE for others", "NONE for another what", "(-2000 for V)". */

@@ -417,6 +417,16 @@ public final class TapeEdgesTest {
             ok("sides 2;piece " + word + " 0 parts 2 worth 0 0;left " + word + " 1;whole " + word
                     + ";", 4);
         }
+        for (char letter = 'a'; letter <= 'z'; letter++) {
+            StringBuilder text = new StringBuilder("sides 2;");
+            for (int length = 1; length <= 6; length++) {
+                text.append("piece ").append(String.valueOf(letter).repeat(length))
+                        .append(" 0 parts 1 worth 0 0;");
+            }
+            ok(text.toString(), 7);
+            C.fault("sides 2;piece " + letter + " 0 parts 1 worth 0 0;whole " + letter + letter, 5,
+                    42);
+        }
     }
 
     /** "the first come to as TOKENS are read one by one". */
@@ -601,6 +611,7 @@ public final class TapeEdgesTest {
                 C.due("no breach", x.told(20 + k), 0);
             }
             C.due("END", x.corner(1), 0);
+            C.due("another one, so that each comes behind each", Check.matter(x, "sides 2;"), 1);
         }
     }
 

@@ -233,17 +233,28 @@ public final class TrialEdgesTest {
         // being given between; SIDE 1, 2 and then all of b; 1 and 4
         int[] days = {10, 9, 4, 2, 3, 25, 3, 5};
         for (int i = 0; i < clauses.length; i++) {
-            for (int more = -1; more <= 0; more++) {
-                int peace = days[i] + more;
-                String amounts = peace + " " + peace + " " + peace + ";";
-                StepAway x = Check.of("sides 3;" + pieces + amounts + clauses[i]);
-                C.due(clauses[i] + " in " + peace, x.cut(k), more < 0 ? -1 : 1);
-                // the third must stay, too: V moved by 1 is 1 more to it at BEGIN
-                StepAway y = Check.of("sides 3;" + pieces.replace("parts 2", "parts 1") + amounts
-                        + clauses[i]);
-                for (int side = 0; side < 3; side++) {
-                    C.due(clauses[i] + " edge in " + peace, y.edge(k, side), more < 0 ? -1 : 1);
-                }
+            for (int tight = 0; tight < 3; tight++) {
+                allElse(pieces, k, clauses[i], days[i], tight);
+            }
+        }
+    }
+
+    /** Peace for just as many days, or one less, to one SIDE: V moved by 1 is 1 more at BEGIN. */
+    private static void allElse(String pieces, int k, String clause, int days, int tight) {
+        for (int peace = days - 1; peace <= days; peace++) {
+            StringBuilder amounts = new StringBuilder();
+            for (int side = 0; side < 3; side++) {
+                amounts.append(side == tight ? peace : 99).append(side == 2 ? ";" : " ");
+            }
+            boolean enough = peace == days;
+            String call = clause + " in " + amounts;
+            StepAway x = Check.of("sides 3;" + pieces + amounts + clause);
+            C.due("cut: " + call, x.cut(k), enough ? 1 : -1);
+            StepAway y = Check.of("sides 3;" + pieces.replace("parts 2", "parts 1") + amounts
+                    + clause);
+            for (int side = 0; side < 3; side++) {
+                int due = enough && side == tight ? 1 : -1;
+                C.due("edge of SIDE " + side + ": " + call, y.edge(k, side), due);
             }
         }
     }

@@ -32,7 +32,7 @@ public final class PlainModelTest {
         CHECK.due("[" + text + "] " + call, got, want);
     }
 
-    private static PlainModel model(Random random) {
+    static PlainModel model(Random random) {
         PlainModel m = new PlainModel();
         m.sides = 2 + random.nextInt(2);
         m.mode = random.nextInt(3);
@@ -77,7 +77,7 @@ public final class PlainModelTest {
         return m;
     }
 
-    private static String tell(PlainModel m, Random random) {
+    static String tell(PlainModel m, Random random) {
         StringBuilder b = new StringBuilder("sides " + m.sides + ";");
         String[] modes = {"turns", "any", "once"};
         if (m.mode != 0 || random.nextBoolean()) {
